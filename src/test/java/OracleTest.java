@@ -1,10 +1,16 @@
+import java.lang.reflect.Method;
 import java.util.ArrayList;
+import java.util.Arrays;
 import java.util.List;
 import java.util.Random;
 
 /** Runs of calls by lot, with a fixed seed, on the class and on the oracle: every answer must be the same. */
 public final class OracleTest {
     private static final int RUNS = 500;
+    private static final int LETTER = Face.place("letter");
+    private static final int COUNTY = Face.place("county");
+    private static final int SIGNS = Face.place("signs");
+    private static final int FEUDS = Face.place("feuds");
     private static final int[] ODD = {-1, -2, -9, 8, 9, 10, 16, 20, 21, 60, 61, 99, 100, 255, 256,
         Integer.MIN_VALUE, Integer.MAX_VALUE};
 
@@ -55,13 +61,13 @@ public final class OracleTest {
         for (int one = 0; one < people; one++) {
             for (int other = one + 1; other < people; other++) {
                 if (random.nextDouble() < signings) {
-                    call(4, one, other);
-                    call(4, other, one);
+                    call(SIGNS, one, other);
+                    call(SIGNS, other, one);
                 } else if (random.nextInt(4) == 0) {
-                    call(4, other, one);
+                    call(SIGNS, other, one);
                 }
                 if (random.nextDouble() < feuds) {
-                    call(5, one, other);
+                    call(FEUDS, one, other);
                 }
             }
         }
@@ -69,9 +75,9 @@ public final class OracleTest {
 
     private void tell(String text) {
         for (char c : text.toCharArray()) {
-            call(0, c);
+            call(LETTER, c);
         }
-        call(1);
+        call(COUNTY);
     }
 
     private String statement() {
@@ -114,8 +120,8 @@ public final class OracleTest {
     }
 
     private void act() {
-        int which = random.nextInt(42);
-        if (which <= 1) {
+        int which = random.nextInt(Face.NAMES.length);
+        if (which == LETTER || which == COUNTY) {
             tell(text());
             return;
         }
@@ -123,7 +129,7 @@ public final class OracleTest {
         for (int i = 0; i < args.length; i++) {
             args[i] = argument();
         }
-        shape(which, args);
+        shape(Face.NAMES[which], args);
         if (random.nextInt(12) == 0) {
             args[random.nextInt(6)] = ODD[random.nextInt(ODD.length)];
         }
@@ -138,47 +144,47 @@ public final class OracleTest {
     }
 
     /** Makes the numbers behind the people such as the call mostly wants. */
-    private void shape(int which, int[] args) {
+    private void shape(String name, int[] args) {
         int small = random.nextInt(21);
         int wide = random.nextInt(4) == 0 ? random.nextInt(61) : random.nextInt(12);
-        switch (which) {
-            case 2, 15 -> args[1] = random.nextInt(which == 2 ? 5 : 2);
-            case 3 -> args[2] = random.nextInt(4);
-            case 6 -> args[1] = random.nextInt(100);
-            case 7 -> {
+        switch (name) {
+            case "person", "kin" -> args[1] = random.nextInt(name.equals("person") ? 5 : 2);
+            case "tie" -> args[2] = random.nextInt(4);
+            case "gets" -> args[1] = random.nextInt(100);
+            case "turn" -> {
                 args[1] = random.nextInt(6);
                 args[2] = random.nextInt(10);
             }
-            case 8 -> args[0] = random.nextInt(10) == 0 ? 60 : random.nextInt(4);
-            case 9 -> {
+            case "years" -> args[0] = random.nextInt(10) == 0 ? 60 : random.nextInt(4);
+            case "hasThen" -> {
                 args[1] = wide;
                 args[2] = random.nextInt(2);
             }
-            case 10, 22 -> args[2] = wide;
-            case 11, 14 -> args[0] = wide;
-            case 13, 18 -> args[0] = random.nextInt(3);
-            case 17, 19, 28, 30 -> args[0] = random.nextInt(2);
-            case 20, 21, 27 -> args[1] = small;
-            case 25 -> args[0] = random.nextInt(3) == 0 ? -1 : args[0];
-            case 26 -> {
+            case "areKin", "feudCosts" -> args[2] = wide;
+            case "allMoney", "richest" -> args[0] = wide;
+            case "first", "groups" -> args[0] = random.nextInt(3);
+            case "farthest", "clan", "matters", "mean" -> args[0] = random.nextInt(2);
+            case "bestSign", "bestCut", "buys" -> args[1] = small;
+            case "rooms" -> args[0] = random.nextInt(3) == 0 ? -1 : args[0];
+            case "couples" -> {
                 args[0] = random.nextInt(3) == 0 ? 99 : random.nextInt(40);
                 args[1] = random.nextInt(3) == 0 ? -1 : args[1];
             }
-            case 29 -> {
+            case "deaths" -> {
                 args[2] = random.nextInt(8);
                 args[3] = 2 + random.nextInt(19);
                 args[4] = random.nextBoolean() ? oracle.count(2) / Math.max(1, oracle.count(0)) % 100 : random.nextInt(100);
                 args[5] = random.nextInt(2);
             }
-            case 31 -> args[2] = small;
-            case 32 -> args[1] = random.nextInt(2);
-            case 33 -> args[0] = told();
-            case 36 -> {
+            case "two" -> args[2] = small;
+            case "whatIs" -> args[1] = random.nextInt(2);
+            case "row" -> args[0] = told();
+            case "lots" -> {
                 args[0] = 1 + random.nextInt(20);
                 args[1] = random.nextInt();
                 args[2] = random.nextInt(2);
             }
-            case 39, 40, 41 -> args[0] = random.nextInt(18);
+            case "count" -> args[0] = random.nextInt(18);
             default -> { }
         }
     }
@@ -213,7 +219,7 @@ public final class OracleTest {
     }
 
     private String where(String name, int... args) {
-        return name + java.util.Arrays.toString(args) + " behind " + calls.subList(Math.max(0, calls.size() - 8), calls.size());
+        return name + Arrays.toString(args) + " behind " + calls.subList(Math.max(0, calls.size() - 8), calls.size());
     }
 
     private void call(int which, int... args) {
@@ -221,102 +227,12 @@ public final class OracleTest {
             return;
         }
         left--;
-        int a = args.length > 0 ? args[0] : 0;
-        int b = args.length > 1 ? args[1] : 0;
-        int c = args.length > 2 ? args[2] : 0;
-        calls.add(which + java.util.Arrays.toString(args));
-        long got = which == 29 ? cousins.deaths(a, b, c, args[3], args[4], args[5]) : answer(which, a, b, c);
-        long want = which == 29 ? oracle.deaths(a, b, c, args[3], args[4], args[5]) : due(which, a, b, c);
-        check.due(where("call " + which, args), got, want);
-    }
-
-    private long answer(int which, int a, int b, int c) {
-        CousinsByAgreement x = cousins;
-        return switch (which) {
-            case 0 -> x.letter(a);
-            case 1 -> x.county();
-            case 2 -> x.person(a, b);
-            case 3 -> x.tie(a, b, c);
-            case 4 -> x.signs(a, b);
-            case 5 -> x.feuds(a, b);
-            case 6 -> x.gets(a, b);
-            case 7 -> x.turn(a, b, c);
-            case 8 -> x.years(a);
-            case 9 -> x.hasThen(a, b, c);
-            case 10 -> x.areKin(a, b, c);
-            case 11 -> x.allMoney(a);
-            case 12 -> x.ruined(a);
-            case 13 -> x.first(a);
-            case 14 -> x.richest(a);
-            case 15 -> x.kin(a, b);
-            case 16 -> x.removed(a, b);
-            case 17 -> x.farthest(a);
-            case 18 -> x.groups(a);
-            case 19 -> x.clan(a);
-            case 20 -> x.bestSign(a, b);
-            case 21 -> x.bestCut(a, b);
-            case 22 -> x.feudCosts(a, b, c);
-            case 23 -> x.peace();
-            case 24 -> x.will(a, b);
-            case 25 -> x.rooms(a);
-            case 26 -> x.couples(a, b);
-            case 27 -> x.buys(a, b);
-            case 28 -> x.matters(a);
-            case 30 -> x.mean(a);
-            case 31 -> x.two(a, b, c);
-            case 32 -> x.whatIs(a, b);
-            case 33 -> x.row(a);
-            case 34 -> x.judge();
-            case 35 -> x.clear();
-            case 36 -> x.lots(a, b, c);
-            case 37 -> x.image();
-            case 38 -> x.on();
-            default -> x.count(a);
-        };
-    }
-
-    private long due(int which, int a, int b, int c) {
-        Oracle x = oracle;
-        return switch (which) {
-            case 0 -> x.letter(a);
-            case 1 -> x.county();
-            case 2 -> x.person(a, b);
-            case 3 -> x.tie(a, b, c);
-            case 4 -> x.signs(a, b);
-            case 5 -> x.feuds(a, b);
-            case 6 -> x.gets(a, b);
-            case 7 -> x.turn(a, b, c);
-            case 8 -> x.years(a);
-            case 9 -> x.hasThen(a, b, c);
-            case 10 -> x.areKin(a, b, c);
-            case 11 -> x.allMoney(a);
-            case 12 -> x.ruined(a);
-            case 13 -> x.first(a);
-            case 14 -> x.richest(a);
-            case 15 -> x.kin(a, b);
-            case 16 -> x.removed(a, b);
-            case 17 -> x.farthest(a);
-            case 18 -> x.groups(a);
-            case 19 -> x.clan(a);
-            case 20 -> x.bestSign(a, b);
-            case 21 -> x.bestCut(a, b);
-            case 22 -> x.feudCosts(a, b, c);
-            case 23 -> x.peace();
-            case 24 -> x.will(a, b);
-            case 25 -> x.rooms(a);
-            case 26 -> x.couples(a, b);
-            case 27 -> x.buys(a, b);
-            case 28 -> x.matters(a);
-            case 30 -> x.mean(a);
-            case 31 -> x.two(a, b, c);
-            case 32 -> x.whatIs(a, b);
-            case 33 -> x.row(a);
-            case 34 -> x.judge();
-            case 35 -> x.clear();
-            case 36 -> x.lots(a, b, c);
-            case 37 -> x.image();
-            case 38 -> x.on();
-            default -> x.count(a);
-        };
+        String name = Face.NAMES[which];
+        Method asked = Face.method(CousinsByAgreement.class, name);
+        int[] used = Arrays.copyOf(args, asked.getParameterCount());
+        calls.add(name + Arrays.toString(used));
+        long got = Face.answer(asked, cousins, used);
+        long want = Face.answer(Face.method(Oracle.class, name), oracle, used);
+        check.due(where(name, used), got, want);
     }
 }
