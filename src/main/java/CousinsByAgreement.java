@@ -1154,14 +1154,13 @@ public final class CousinsByAgreement {
         int seatAll(County county) {
             people = county.people;
             System.arraycopy(county.foes, 0, foes, 0, MOST_PEOPLE);
+            Arrays.fill(inRoom, 0);
             for (int most = 0; most < people; most++) {
-                Arrays.fill(inRoom, 0);
                 if (seatFrom(0, 0, most)) {
                     return most;
                 }
             }
             // A room for each always does.
-            Arrays.fill(inRoom, 0);
             seatFrom(0, 0, people);
             return people;
         }

@@ -53,6 +53,9 @@ public final class ChoiceTest {
         for (int one = 0; one < ring.length; one++) {
             due("ring's room of " + one, x.rooms(one), ring[one]);
         }
+        x.feuds(0, 1);
+        due("asked again, with a feud less", x.rooms(-1), 2);
+        due("the last one's room then", x.rooms(4), 1);
         due("nobody", x.rooms(5), -1);
         due("nobody below", x.rooms(-2), -1);
         due("one is enough", Told.county("pp000;pp000;").rooms(-1), 1);
@@ -81,6 +84,7 @@ public final class ChoiceTest {
         partners(x, 3, -9, -9, -9, -9);
         partners(x, 99, 1, 0, 3, 2);
         x.feuds(0, 2);
+        x.couples(99, -1);
         due("not at feud", x.couples(4, -1), 1);
         partners(x, 4, 1, 0, -9, -9);
         due("below before nobody", x.couples(-1, 9), -4);
@@ -118,6 +122,12 @@ public final class ChoiceTest {
         x.signs(0, 1);
         due("of several the least", x.matters(0), 1);
         due("how many then", x.matters(1), 1);
+        x.signs(2, 1);
+        due("who is in both that are left", x.matters(0), 3);
+        due("how many of these then", x.matters(1), 0);
+        x.feuds(2, 3);
+        due("the first of one pair", x.matters(0), 1);
+        due("none then", x.matters(1), 0);
         due("what", x.matters(2), -2);
         due("what below", x.matters(-1), -2);
         due("nobody", new CousinsByAgreement().matters(0), -9);
@@ -146,6 +156,10 @@ public final class ChoiceTest {
         likely(x, new int[] {1, 0, 1, 4, 99}, 1, 4);
         likely(x, new int[] {1, 0, 1, 4, 95}, 1, 1);
         due("no year has gone by", x.count(1), 0);
+        x = Told.county("pt000;pt000;pl999;b02;b12;");
+        likely(x, new int[] {1, 0, 1, 2, 4}, 1, 1);
+        likely(x, new int[] {1, 2, 1, 2, 95}, 1, 2);
+        likely(x, new int[] {2, 0, 1, 2, 4}, 1, 2);
         // The aunt can't pay the tinker in the first year: only his death then keeps her signed to pay in the second.
         x = Told.county("pt000;pa001;pl950;b01;b12;");
         likely(x, new int[] {0, 1, 2, 2, 7}, 3, 4);
@@ -212,6 +226,15 @@ public final class ChoiceTest {
         due("he stays", x.person(0, 0), 1);
         due("his figure stays", x.person(0, 1), 3);
         due("not the other one", x.whatIs(1, 0), 0);
+        x.clear();
+        x.row(21);
+        x.row(18);
+        due("not by the first number", x.whatIs(0, 0), 0);
+        due("no figure by the first number", x.whatIs(0, 1), 0);
+        x.clear();
+        x.row(20);
+        x.row(18);
+        x.row(16);
         x.row(99);
         due("none", x.whatIs(0, 0), 0);
         due("no figure", x.whatIs(0, 1), 0);

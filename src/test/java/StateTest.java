@@ -250,7 +250,7 @@ public final class StateTest {
         due("kind below", x.turn(0, -1, 10), -2);
         due("figure below", x.turn(0, 1, -1), -4);
         due("figure above", x.turn(0, 1, 10), -6);
-        due("nobody first", x.turn(1, 9, 10), -1);
+        due("nobody before all", x.turn(1, 9, 10), -1);
         due("kind stays", x.person(0, 0), 0);
         due("figure stays", x.person(0, 1), 0);
     }
@@ -325,6 +325,9 @@ public final class StateTest {
         x.row(31);
         x.row(7);
         due("the first that is not so", x.judge(), 1);
+        x.row(21);
+        x.row(31);
+        due("the very first", x.judge(), 0);
         x.row(20);
         x.row(30);
         x.row(0);

@@ -109,6 +109,11 @@ public final class ThoughtTest {
     private static void promise15Steady() {
         due("nobody", new CousinsByAgreement().first(2), 0);
         due("the lord is dropped", Told.county(LORD_OF_TWELVE).first(2), 7);
+        CousinsByAgreement x = Told.county(LORD_OF_TWELVE);
+        x.hasThen(0, 60, 0);
+        due("from now on, whatever has been thought", x.first(2), 7);
+        x.years(4);
+        due("and behind four years", x.first(2), 3);
         due("two who pay as much", Told.county("pp010;pp010;b01;").first(2), 0);
         due("a signing is a change", Told.county("pp000;pt000;b01;").first(2), 1);
         due("at 60", Told.county("pp059;pt000;b01;").first(2), 60);
