@@ -391,7 +391,7 @@ public final class CousinsByAgreement {
             return REFUSED_LONG - refuse(no);
         }
         long good = odds.goodWays(now, dead, person, n, t, v);
-        return partOf(good, odds.allWays(n, t), part);
+        return partOf(good, Odds.allWays(n, t), part);
     }
 
     public long mean(int part) {
@@ -737,11 +737,10 @@ public final class CousinsByAgreement {
             if (people >= MOST_PEOPLE) {
                 return false;
             }
+            // Nobody's row of signings or feuds is ever written before he comes: it is empty.
             kinds[people] = kind;
             figures[people] = figure;
             money[people] = v;
-            signed[people] = 0;
-            foes[people] = 0;
             people++;
             return true;
         }
@@ -854,18 +853,11 @@ public final class CousinsByAgreement {
             return n >= 1 && n <= MOST_YEARS && date + n <= MOST_DATE;
         }
 
-        boolean tellYears(int n) {
-            if (!mayPass(n)) {
-                return false;
-            }
-            passYears(n);
-            return true;
-        }
-
-        void passYears(int n) {
+        boolean passYears(int n) {
             for (int year = 0; year < n; year++) {
                 passYear(NOBODY);
             }
+            return true;
         }
 
         /** A year in which the absent one (NOBODY for none) neither pays nor is paid. */
@@ -1045,7 +1037,7 @@ public final class CousinsByAgreement {
                 case 'm':
                     return county.enrich(one, numberAt(start + 2));
                 default:
-                    return county.tellYears(numberAt(start + 1));
+                    return county.mayPass(numberAt(start + 1)) && county.passYears(numberAt(start + 1));
             }
         }
     }
@@ -1301,7 +1293,7 @@ public final class CousinsByAgreement {
             return waysFrom(0);
         }
 
-        long allWays(int n, int t) {
+        static long allWays(int n, int t) {
             long all = 1;
             for (int year = 0; year < n; year++) {
                 all *= t;
