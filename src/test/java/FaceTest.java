@@ -80,6 +80,19 @@ public final class FaceTest {
             for (Method method : one.getDeclaredMethods()) {
                 CHECK.holds("at most seven parameters: " + method, method.getParameterCount() <= 7);
             }
+            types(one, all);
+        }
+    }
+
+    /** What this class is written with; LANGUAGE.md 3 and 5 leave more. */
+    private static void types(Class<?> one, List<Class<?>> own) {
+        for (Field field : one.getDeclaredFields()) {
+            Class<?> type = field.getType();
+            boolean isConstant = Set.of(int.class, long.class, String.class).contains(type);
+            boolean isHeld = Set.of(int.class, boolean.class, int[].class).contains(type) || own.contains(type)
+                    || type.isArray() && own.contains(type.getComponentType());
+            CHECK.holds("of a type that may be: " + field,
+                    Modifier.isStatic(field.getModifiers()) ? isConstant : isHeld);
         }
     }
 
